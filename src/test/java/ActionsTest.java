@@ -36,6 +36,11 @@ public final class ActionsTest {
         check.same("the same size", x.size(2, 2), 4);
         check.same("is new, too", Looks.of(x), "2 2 0 0 2 5 0 0 0 0 0 0 0 -1");
         check.same("no scratch", x.cell(0, 3), 0);
+        x.scratch(0, 2);
+        x.size(2, 2);
+        check.same("no scratch below", x.about(3), 0);
+        x.undo();
+        x.undo();
         for (int n : new int[] {1, 9, 0, -1, Integer.MIN_VALUE, Integer.MAX_VALUE}) {
             check.refused(x, "size(" + n + ", 4)", ARGUMENT, () -> x.size(n, 4));
             check.refused(x, "size(4, " + n + ")", ARGUMENT, () -> x.size(4, n));

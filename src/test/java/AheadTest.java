@@ -83,9 +83,11 @@ public final class AheadTest {
         return new int[] {PaneFrost.NONE, PaneFrost.NONE};
     }
 
-    // A window of this size with these scratches was looked for: it comes again just behind 300
-    // nights, or just behind more.
     private static void againLate() {
+        comesAgain("W56r1b20b11f16f03s182s100s190f27s083f08", 8, 292);
+        comesAgain("W65r2b11b10s250f16s222s282s062s020s161", 8, 292);
+        comesAgain("W84r1b11b01f23s020s072s220s170s051s071", PaneFrost.NONE, PaneFrost.NONE);
+        comesAgain("W66r1b21b12s241s321s290s112", PaneFrost.NONE, PaneFrost.NONE);
         int late = 0;
         int never = 0;
         for (int seed = 1; seed <= 60; seed++) {
@@ -200,6 +202,10 @@ public final class AheadTest {
         }
         check.same("nothing changed", line.frozen(), 1L);
         check.same("not over scratches", line.freezesIn(8), PaneFrost.NONE);
+        PaneFrost wound = Looks.loaded("W88f00");
+        Looks.windUp(wound);
+        check.same("the end of the longest way", wound.freezesIn(56), 63);
+        check.same("not far before", wound.freezesIn(63), 56);
         int late = 0;
         for (int seed = 0; seed < 1500 && late < 5; seed++) {
             PaneFrost y = wild(seed);

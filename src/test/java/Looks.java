@@ -28,6 +28,18 @@ final class Looks {
         return x;
     }
 
+    /** Scratches an 8 by 8 window to one way from the cell 0 to and fro through all rows to the cell 56. */
+    static void windUp(PaneFrost x) {
+        for (int r = 0; r < 7; r++) {
+            int open = r % 2 == 0 ? 7 : 0;
+            for (int c = 0; c < 8; c++) {
+                if (c != open) {
+                    x.scratch(8 * r + c, 2);
+                }
+            }
+        }
+    }
+
     static long set(int... cells) {
         long set = 0L;
         for (int k : cells) {

@@ -109,6 +109,7 @@ public final class TextTest {
         x.rule(2);
         x.flip(5);
         x.scratch(5, 1);
+        x.scratch(5, 2);
         x.nights(7);
         x.save(0);
         x.save(1);

@@ -62,6 +62,18 @@ public final class WindowTest {
         snake.flip(12);
         check.same("two patches", snake.about(6), 2);
         check.same("the larger one", snake.about(7), 8);
+        PaneFrost wound = new PaneFrost();
+        wound.size(8, 8);
+        Looks.windUp(wound);
+        for (int k = 0; k < 64; k++) {
+            wound.flip(k);
+        }
+        check.same("one way of all cells", wound.about(7), 64);
+        check.same("one patch", wound.about(6), 1);
+        check.same("from its end, too", wound.cell(56, 2), 64);
+        wound.scratch(23, 2);
+        check.same("cut at a turn", wound.about(6), 2);
+        check.same("the longer part", wound.about(7), 40);
         PaneFrost board = Looks.loaded("W88r1b01b11b21b31n01");
         check.same("all but corners on the sides", board.about(2), 24);
         check.same("four strips", board.about(6), 4);
@@ -95,6 +107,19 @@ public final class WindowTest {
         x.border(1, 2);
         check.same("the frozen one over the side", x.cell(3, 1), 1);
         check.same("the same from there", x.cell(5, 1), 1);
+        PaneFrost wide = Looks.loaded("W25f04b12");
+        check.same("over the left of a wide one", wide.cell(0, 1), 1);
+        check.same("not in the row below", wide.cell(5, 1), 0);
+        wide.flip(4);
+        wide.flip(5);
+        check.same("over the right of a wide one", wide.cell(9, 1), 1);
+        check.same("not in the row above", wide.cell(4, 1), 0);
+        PaneFrost high = Looks.loaded("W52f08b02");
+        check.same("over the top of a high one", high.cell(0, 1), 1);
+        check.same("not beside it", high.cell(1, 1), 0);
+        high.flip(8);
+        high.flip(1);
+        check.same("over the bottom of a high one", high.cell(9, 1), 1);
         check.same("frozen", x.cell(1, 0), 1);
         check.same("clear", x.cell(0, 0), 0);
     }
