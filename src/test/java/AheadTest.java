@@ -84,6 +84,8 @@ public final class AheadTest {
     }
 
     private static void againLate() {
+        comesAgain("W77r2b32b31s063s041f32f48s350s411s322s403f27s190s393", 0, 300);
+        comesAgain("W88r2b02b00f56f26s600s422s142f12f55s460s591", againByHand("W88r2b02b00f56f26s600s422s142f12f55s460s591"));
         comesAgain("W56r1b20b11f16f03s182s100s190f27s083f08", 8, 292);
         comesAgain("W65r2b11b10s250f16s222s282s062s020s161", 8, 292);
         comesAgain("W84r1b11b01f23s020s072s220s170s051s071", PaneFrost.NONE, PaneFrost.NONE);

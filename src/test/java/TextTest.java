@@ -23,6 +23,17 @@ public final class TextTest {
         check.refused(x, "restore(0) of nothing", STATE, () -> x.restore(0));
         check.refused(x, "restore(1) of nothing", STATE, () -> x.restore(1));
         check.same("no text", x.clearText(), 0);
+        int[][] beside = {{-1, 1, 4, -1}, {1, 6, 9, 4}, {11, -1, -1, 14}};
+        for (int i = 0; i < 3; i++) {
+            int k = new int[] {0, 5, 15}[i];
+            for (int d = 0; d < 4; d++) {
+                check.same("neighbour(" + k + ", " + d + ") at first", x.neighbour(k, d), beside[i][d]);
+            }
+        }
+        PaneFrost night = new PaneFrost();
+        night.flip(3);
+        check.same("a first night", night.nights(1), 3);
+        check.same("its frost", night.frozen(), Looks.set(2, 3, 7));
         PaneFrost other = new PaneFrost();
         x.flip(3);
         check.same("another object stays", other.frozen(), 0L);
