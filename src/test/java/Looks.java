@@ -15,16 +15,88 @@ final class Looks {
         return all.append(Long.toHexString(x.frozen())).append(' ').append(x.errorPosition()).toString();
     }
 
+    /** The same, and the scratches, in as many calls more as there are cells. */
+    static String whole(PaneFrost x) {
+        StringBuilder all = new StringBuilder(of(x)).append(" scratches");
+        int count = x.about(0) * x.about(1);
+        for (int k = 0; k < count; k++) {
+            all.append(' ').append(x.cell(k, 3));
+        }
+        return all.toString();
+    }
+
+    /** All that can be seen of an object, in some 300 calls for 12 cells that leave nothing of it as it was. */
+    static String deep(PaneFrost x) {
+        StringBuilder all = new StringBuilder(whole(x));
+        while (canUndo(x, all)) {
+            all.append(" undone ").append(brief(x));
+        }
+        for (int slot = 0; slot < 2; slot++) {
+            if (canRestore(x, slot, all)) {
+                all.append(" restored ").append(whole(x));
+            }
+        }
+        all.append(" text ").append(x.errorPosition());
+        if (x.errorPosition() == PaneFrost.NONE) {
+            all.append(' ').append(x.load()).append(' ').append(whole(x));
+        }
+        return all.append(' ').append(x.clearText()).toString();
+    }
+
+    private static String brief(PaneFrost x) {
+        StringBuilder all = new StringBuilder(Long.toHexString(x.frozen()));
+        for (int what : new int[] {0, 1, 3, 4, 5}) {
+            all.append(' ').append(x.about(what));
+        }
+        return all.append(' ').append(1000 * x.side(0) + 100 * x.side(1) + 10 * x.side(2) + x.side(3)).toString();
+    }
+
+    private static boolean canUndo(PaneFrost x, StringBuilder all) {
+        try {
+            all.append(' ').append(x.undo());
+            return true;
+        } catch (IllegalStateException e) {
+            return false;
+        }
+    }
+
+    private static boolean canRestore(PaneFrost x, int slot, StringBuilder all) {
+        try {
+            all.append(' ').append(x.restore(slot));
+            return true;
+        } catch (IllegalStateException e) {
+            return false;
+        }
+    }
+
     static void write(PaneFrost x, String text) {
         for (int i = 0; i < text.length(); i++) {
             x.append(text.charAt(i));
         }
     }
 
-    static PaneFrost loaded(String text) {
+    static PaneFrost written(String text) {
         PaneFrost x = new PaneFrost();
         write(x, text);
+        return x;
+    }
+
+    static PaneFrost loaded(String text) {
+        PaneFrost x = written(text);
         x.load();
+        return x;
+    }
+
+    static PaneFrost sized(int rows, int cells) {
+        return loaded("W" + rows + cells);
+    }
+
+    /** A window of which each cell is frozen. */
+    static PaneFrost full(int rows, int cells) {
+        PaneFrost x = sized(rows, cells);
+        for (int k = 0; k < rows * cells; k++) {
+            x.flip(k);
+        }
         return x;
     }
 
@@ -35,6 +107,17 @@ final class Looks {
             for (int c = 0; c < 8; c++) {
                 if (c != open) {
                     x.scratch(8 * r + c, 2);
+                }
+            }
+        }
+    }
+
+    /** Makes each scratch that there can be. */
+    static void scratchAll(PaneFrost x, int rows, int cells) {
+        for (int k = 0; k < rows * cells; k++) {
+            for (int d = 1; d <= 2; d++) {
+                if (x.neighbour(k, d) != PaneFrost.NONE) {
+                    x.scratch(k, d);
                 }
             }
         }
