@@ -520,6 +520,11 @@ public final class ActionsEdgesTest {
             iced.border(side, side % 2);
         }
         check.same("not over dry or icy sides", iced.breathe(0, 1), 3);
+        for (int side = 0; side < 4; side++) {
+            PaneFrost along = Looks.full(4, 4);
+            along.border(side, 1);
+            check.same("nor along the ice", along.breathe(side < 2 ? 3 : 12, 2), 6);
+        }
         PaneFrost over = Looks.full(3, 3);
         over.border(0, 2);
         over.scratch(0, 0);

@@ -89,17 +89,14 @@ public final class AheadEdgesTest {
     }
 
     private static void byHand(String text) {
-        PaneFrost x = Looks.loaded(text);
-        long[] seen = new long[301];
+        long[] seen = Looks.ahead(text, 300);
         for (int i = 0; i <= 300; i++) {
-            seen[i] = x.frozen();
             for (int first = 0; first < i; first++) {
                 if (seen[first] == seen[i]) {
                     again(text, first, i - first);
                     return;
                 }
             }
-            x.nights(1);
         }
         again(text, NONE, NONE);
     }
@@ -195,6 +192,16 @@ public final class AheadEdgesTest {
         check.same("none", x.befores(), NONE);
         x.rule(2);
         check.same("itself alone", x.befores(), 0);
+        x.size(2, 2);
+        x.flip(3);
+        check.same("itself, in a window of 2 by 2", x.befores(), 0);
+        x.rule(1);
+        check.same("none in it", x.befores(), NONE);
+        x.flip(0);
+        check.same("of two cells in it", x.befores(), 2);
+        check.same("the least of those", x.before(), 2L);
+        x.size(8, 8);
+        check.same("in a large one again", x.befores(), 8);
         PaneFrost ice = Looks.loaded("W22b01b11b21b31r1");
         check.same("ice above and beside is even", ice.befores(), 2);
         check.same("ice above alone leaves no window clear", Looks.loaded("W22b01r1").befores(), NONE);

@@ -68,12 +68,8 @@ public final class AheadTest {
     }
 
     private static int[] againByHand(String text) {
-        PaneFrost x = Looks.loaded(text);
-        long[] seen = new long[301];
-        seen[0] = x.frozen();
+        long[] seen = Looks.ahead(text, 300);
         for (int j = 1; j <= 300; j++) {
-            x.nights(1);
-            seen[j] = x.frozen();
             for (int i = 0; i < j; i++) {
                 if (seen[i] == seen[j]) {
                     return new int[] {i, j - i};
@@ -279,13 +275,14 @@ public final class AheadTest {
     }
 
     private static void refused() {
-        PaneFrost x = Looks.loaded("W34f01");
         for (int k : new int[] {-1, 12, 64, Integer.MIN_VALUE, Integer.MAX_VALUE}) {
+            PaneFrost x = Looks.loaded("W34f01");
             check.refused(x, "freezesIn(" + k + ")", INDEX, () -> x.freezesIn(k));
             check.refused(x, "keeps(" + k + ", 1)", INDEX, () -> x.keeps(k, 1));
             check.refused(x, "keeps(" + k + ", 0)", INDEX, () -> x.keeps(k, 0));
         }
         for (int n : new int[] {0, 21, -1, Integer.MIN_VALUE, Integer.MAX_VALUE}) {
+            PaneFrost x = Looks.loaded("W34f01");
             check.refused(x, "keeps(0, " + n + ")", ARGUMENT, () -> x.keeps(0, n));
         }
     }

@@ -87,6 +87,30 @@ final class Looks {
         return x;
     }
 
+    /** The frozen cells of now and behind 1 to n nights; no object is used for more than 512 calls. */
+    static long[] ahead(String text, int n) {
+        long[] sets = new long[n + 1];
+        PaneFrost x = loaded(text);
+        sets[0] = x.frozen();
+        for (int i = 1; i <= n; i++) {
+            if (i % 180 == 0) {
+                x = behind(text, i - 60);
+                x.nights(59);
+            }
+            x.nights(1);
+            sets[i] = x.frozen();
+        }
+        return sets;
+    }
+
+    private static PaneFrost behind(String text, int nights) {
+        PaneFrost x = loaded(text);
+        for (int i = 0; i < nights; i += 60) {
+            x.nights(60);
+        }
+        return x;
+    }
+
     static PaneFrost sized(int rows, int cells) {
         return loaded("W" + rows + cells);
     }

@@ -6,7 +6,8 @@ public final class RefusedTest {
     private static final Class<IllegalArgumentException> ARGUMENT = IllegalArgumentException.class;
     private static final Class<IndexOutOfBoundsException> INDEX = IndexOutOfBoundsException.class;
     private static final Class<IllegalStateException> STATE = IllegalStateException.class;
-    private static final String FULL_TEXT = "W34b02s051b12s003r2f00f05n02f07" + "f01t100b11b12r1n60".repeat(4) + "f10s062r2s032t000";
+    private static final String FULL_TEXT = "W34b02s051b12s003r2f00f05n02f07"
+        + "f01t100b11b12r1n60".repeat(4) + "f10s062r2s032t000";
     private static final Check check = new Check("RefusedTest");
 
     private interface On {
@@ -100,9 +101,8 @@ public final class RefusedTest {
 
     private static void noArgument() {
         check.sentence(0, "IllegalArgumentException means that another argument is out of its range.");
-        for (int most : new int[] {Integer.MIN_VALUE, -1}) {
-            tooSmall(most);
-        }
+        tooSmall(Integer.MIN_VALUE);
+        tooSmall(-1);
         tooSmall(0, 1);
         tooLarge(0);
         tooLarge(Integer.MAX_VALUE);

@@ -57,6 +57,10 @@ public final class ScriptEdgesTest {
             x.runScript(3, script);
         }
         check.same("each begins with the state", x.runScript(3, 704180008011L), NONE);
+        runs("W33f06b02s000b00", 2, 30028000L, NONE);
+        runs("W33f06b02b00", 2, 30028001L, NONE);
+        runs("W33f02b12s003b10", 2, 30128000L, NONE);
+        runs("W33f02b12b10", 2, 30328001L, NONE);
         check.same("nothing changed", Looks.deep(x), Looks.deep(y));
     }
 
@@ -323,8 +327,8 @@ public final class ScriptEdgesTest {
         runs("W33", 2, 90009000L, NONE);
         runs("W33", 3, 900090009000L, NONE);
         check.sentence(25, "or if script is negative or has more than 4 * n digits");
-        PaneFrost x = Looks.loaded("W33");
         for (int n = 1; n <= 3; n++) {
+            PaneFrost x = Looks.loaded("W33");
             int count = n;
             long tooLong = n == 1 ? 10000L : n == 2 ? 100000000L : 1000000000000L;
             check.refused(x, "one digit more", ARGUMENT, () -> x.runScript(count, tooLong));
@@ -333,9 +337,10 @@ public final class ScriptEdgesTest {
             check.refused(x, "-1000", ARGUMENT, () -> x.runScript(count, -1000L));
             check.refused(x, "the least", ARGUMENT, () -> x.runScript(count, Long.MIN_VALUE));
             check.refused(x, "the greatest", ARGUMENT, () -> x.runScript(count, Long.MAX_VALUE));
-            check.refused(x, "2 to the power 32, and a command", ARGUMENT, () -> x.runScript(count, (1L << 42) + 1000L));
+            check.refused(x, "a command, and 2 to the power 42", ARGUMENT, () -> x.runScript(count, (1L << 42) + 1000L));
         }
-        check.refused(x, "2 to the power 32, in one", ARGUMENT, () -> x.runScript(1, (1L << 32) + 1000L));
+        PaneFrost y = Looks.loaded("W33");
+        check.refused(y, "a command, and 2 to the power 32", ARGUMENT, () -> y.runScript(1, (1L << 32) + 1000L));
     }
 
     private static void answers() {
@@ -399,6 +404,9 @@ public final class ScriptEdgesTest {
         for (int m = 1; m <= 60; m++) {
             x.simulate(m, m);
         }
+        turn("W33f00f06b02s000b00", 4, 0 + 4 * 2, 202);
+        turn("W33f00f06b02b00", 4, 0 + 4 * 2, 201);
+        turn("W33f00f02b12s003b10", 4, 1 + 4 * 2, 202);
         check.same("the same each time", x.simulate(77L, 60), Looks.loaded("W34f05f06b02s000r1").simulate(77L, 60));
         check.same("nothing changed", Looks.deep(x), Looks.deep(y));
     }
@@ -581,6 +589,13 @@ public final class ScriptEdgesTest {
             x.restore(0);
             check.same("each time the same", Looks.whole(x), Looks.whole(Looks.loaded("W34f01b02s000b12s003n02r2")));
         }
+        PaneFrost hidden = Looks.loaded("W33b02b12s000s003b00b10");
+        hidden.save(1);
+        hidden.size(3, 3);
+        hidden.restore(1);
+        hidden.border(0, 2);
+        hidden.border(1, 2);
+        check.same("scratches over sides, too", hidden.cell(0, 3), 9);
         check.sentence(28, "Returns the nights so far then.");
         x.nights(60);
         check.same("not those before", x.restore(0), 2);

@@ -28,7 +28,7 @@ public final class Sentences {
         Map<Integer, List<String>> named = named();
         for (Map.Entry<Integer, List<String>> of : named.entrySet()) {
             for (String words : of.getValue()) {
-                check.same("stands in " + of.getKey() + ": " + words, sections.get(of.getKey()).contains(words), true);
+                check.same("stands in " + of.getKey() + ": " + words, sections.getOrDefault(of.getKey(), "").contains(words), true);
             }
         }
         for (Map.Entry<Integer, String> section : sections.entrySet()) {

@@ -43,6 +43,12 @@ public final class TextEdgesTest {
         PaneFrost x = new PaneFrost();
         check.same("all that there is", Looks.whole(x), "4 4 0 0 0 0 0 0 0 0 0 0 0 0 scratches" + " 0".repeat(16));
         check.same("each object's own", deepOfNew(x), Looks.deep(new PaneFrost()));
+        for (int k = 0; k < 16; k++) {
+            int[] beside = {k < 4 ? NONE : k - 4, k % 4 == 3 ? NONE : k + 1, k > 11 ? NONE : k + 4, k % 4 == 0 ? NONE : k - 1};
+            for (int d = 0; d < 4; d++) {
+                check.same("neighbour(" + k + ", " + d + ")", new PaneFrost().neighbour(k, d), beside[d]);
+            }
+        }
         check.refused(new PaneFrost(), "load of no text", STATE, () -> new PaneFrost().load());
         check.sentence(0, "The constants: `NONE = -1`: There is no such result.");
         check.same("NONE", PaneFrost.NONE, -1);

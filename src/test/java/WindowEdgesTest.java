@@ -51,6 +51,11 @@ public final class WindowEdgesTest {
         check.sentence(0, "The window has 2 to 8 rows of 2 to 8 cells, at first 4 of 4.");
         check.same("rows at first", new PaneFrost().about(0), 4);
         check.same("cells at first", new PaneFrost().about(1), 4);
+        for (int kind = 0; kind <= 2; kind++) {
+            for (int side = 0; side < 4; side++) {
+                check.same("a side at first", bordered(new PaneFrost(), side, kind), bordered(Looks.sized(4, 4), side, kind));
+            }
+        }
         for (int rows : SIZES) {
             for (int cells : SIZES) {
                 PaneFrost x = new PaneFrost();
@@ -62,6 +67,25 @@ public final class WindowEdgesTest {
                 check.refused(x, "one less", INDEX, () -> x.flip(-1));
             }
         }
+    }
+
+    /** What 16 cells show of a side, and of a scratch, a patch and a night over it. */
+    private static String bordered(PaneFrost x, int side, int kind) {
+        StringBuilder all = new StringBuilder();
+        x.border(side, kind);
+        for (int k = 0; k < 16; k++) {
+            all.append(' ').append(x.cell(k, 1)).append(' ').append(x.neighbour(k, side));
+        }
+        if (kind == 2) {
+            x.scratch(side % 2 == 0 ? 12 : 3, side % 2 == 0 ? 2 : 1);
+        }
+        x.flip(0);
+        x.flip(3);
+        x.flip(12);
+        x.nights(1);
+        all.append(' ').append(x.about(6)).append(' ').append(x.about(3)).append(' ').append(x.frozen());
+        x.breathe(0, 2);
+        return all.append(' ').append(x.frozen()).toString();
     }
 
     private static void numbers() {
@@ -489,6 +513,10 @@ public final class WindowEdgesTest {
         patch("W33f00f02b12s003", 2, 1);
         patch("W33f00f02b12s003b30", 2, 1);
         patch("W33f00f02b11b31", 2, 1);
+        patch("W33f00f02b01", 2, 1);
+        patch("W33f02f08b11", 2, 1);
+        patch("W33f06f08b21", 2, 1);
+        patch("W33f00f06b31", 2, 1);
         patch("W33f00f08b02b12", 2, 1);
         patch("W33f00f02f08b02b12", 1, 3);
         patch("W25f04f05", 2, 1);
@@ -501,7 +529,8 @@ public final class WindowEdgesTest {
     private static void about() {
         check.sentence(6, "- `what`: 0: the rows; 1: the cells of a row; 2: the frozen cells, how many; 3: the scratches between cells that are neighbours over them; 4: the rule; 5: the nights so far; 6: the patches; 7: the cells of the largest patch, 0 without one");
         abouts(new PaneFrost(), 4, 4, 0, 0, 0, 0, 0, 0);
-        abouts(Looks.loaded("W28f00f15f14r2n60"), 2, 8, Long.bitCount(Looks.loaded("W28f00f15f14r2n60").frozen()), 0, 2, 60, -1, -1);
+        PaneFrost late = Looks.loaded("W28f00f15f14r2n60");
+        abouts(late, 2, 8, Long.bitCount(late.frozen()), 0, 2, 60, -1, -1);
         abouts(Looks.full(2, 2), 2, 2, 4, 0, 0, 0, 1, 4);
         abouts(Looks.full(8, 8), 8, 8, 64, 0, 0, 0, 1, 64);
         PaneFrost chequered = Looks.sized(8, 8);

@@ -223,8 +223,8 @@ public final class WindowTest {
     }
 
     private static void refused() {
-        PaneFrost x = Looks.loaded("W34f01");
         for (int k : new int[] {-1, 12, 63, 64, Integer.MIN_VALUE, Integer.MAX_VALUE}) {
+            PaneFrost x = Looks.loaded("W34f01");
             check.refused(x, "cell(" + k + ", 0)", INDEX, () -> x.cell(k, 0));
             check.refused(x, "cell(" + k + ", 4)", INDEX, () -> x.cell(k, 4));
             check.refused(x, "neighbour(" + k + ", 0)", INDEX, () -> x.neighbour(k, 0));
