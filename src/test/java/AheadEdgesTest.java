@@ -16,6 +16,7 @@ public final class AheadEdgesTest {
         againThrows();
         befores();
         beforesLimits();
+        beforesInEachSize();
         beforesThrow();
         before();
         beforeWithoutSign();
@@ -206,6 +207,45 @@ public final class AheadEdgesTest {
         check.same("ice above and beside is even", ice.befores(), 2);
         check.same("ice above alone leaves no window clear", Looks.loaded("W22b01r1").befores(), NONE);
         check.same("it freezes the first row", Looks.loaded("W22b01r1f00f01").befores(), 2);
+    }
+
+    /** Asked of the largest window first, of which nothing may be left in the answer of another. */
+    private static void beforesInEachSize() {
+        check.sentence(21, "Tells from how many states the window could have come, by one night.");
+        for (int rows = 2; rows <= 8; rows++) {
+            for (int cells = 2; cells <= 8; cells++) {
+                for (int rule = 1; rule <= 2; rule++) {
+                    for (int kind = 0; kind <= 2; kind++) {
+                        behindTheLargest(rows, cells, rule, kind);
+                    }
+                }
+            }
+        }
+    }
+
+    private static void behindTheLargest(int rows, int cells, int rule, int kind) {
+        PaneFrost x = Looks.loaded("W88r" + rule + "f00f27f63");
+        x.befores();
+        x.border(0, 2);
+        x.border(1, 1);
+        x.befores();
+        x.size(rows, cells);
+        PaneFrost fresh = Looks.sized(rows, cells);
+        fresh.rule(rule);
+        String what = rows + " by " + cells + ", rule " + rule + ", side " + kind;
+        for (int k = 0; k < 4; k++) {
+            x.border(k, kind);
+            fresh.border(k, kind);
+            check.same("befores of " + what, x.befores(), fresh.befores());
+            check.same("before of " + what, x.before(), fresh.before());
+            x.flip(k);
+            fresh.flip(k);
+        }
+        x.nights(1);
+        fresh.nights(1);
+        check.same("one night behind another of " + what, x.befores() >= 0, true);
+        check.same("as many of " + what, x.befores(), fresh.befores());
+        check.same("the least of " + what, x.before(), fresh.before());
     }
 
     private static void beforesThrow() {
@@ -424,6 +464,13 @@ public final class AheadEdgesTest {
     private static void keepsNone() {
         check.sentence(24, "NONE if there is none.");
         check.same("all scratches are made", alone(0).keeps(0, 1), NONE);
+        for (int rows = 2; rows <= 8; rows++) {
+            for (int cells = 2; cells <= 8; cells++) {
+                PaneFrost x = Looks.sized(rows, cells);
+                Looks.scratchAll(x, rows, cells);
+                check.same("all of " + rows + " by " + cells, x.keeps(rows * cells - 1, 20), NONE);
+            }
+        }
         check.same("two ways to it", Looks.loaded("W33f01f03f05").keeps(4, 1), 4 * 1 + 2);
         check.same("two are too many", Looks.loaded("W33f00f08f03").keeps(6, 2), NONE);
         check.same("ice on three sides", Looks.loaded("W22b01b11b21b31f01").keeps(0, 1), 1);
